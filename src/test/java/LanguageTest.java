@@ -1,0 +1,133 @@
+import java.io.IOException;
+import java.lang.reflect.Constructor;
+import java.lang.reflect.Field;
+import java.lang.reflect.Member;
+import java.lang.reflect.Method;
+import java.lang.reflect.Modifier;
+import java.nio.file.Files;
+import java.nio.file.Path;
+import java.util.Arrays;
+import java.util.TreeSet;
+import java.util.regex.Matcher;
+import java.util.regex.Pattern;
+
+/** The public face, and the rules of LANGUAGE.md that can be seen in the class or its text. */
+public final class LanguageTest {
+    private static final String SOURCE = "src/main/java/SessionTables.java";
+    private static final String[] FACE = {
+        "BAD", "TAKEN", "MANY", "FULL", "TORN", "BUSY", "LOOP", "SPOILED", "new(int)",
+        "make(int,int,boolean):int", "write(int,int,int):int", "remove(int,int):int",
+        "move(int,int,int,int):int", "close():int", "arm(int):boolean", "crash():int",
+        "spoil(int):boolean", "left():int", "changed():int", "tables():int", "kind(int,int):int",
+        "items(int,int):int", "find(int,int,int):int", "item(int,int,int):int",
+        "block(int,int,int):int", "word(int,int):int"};
+    private static final String[] BANNED = {
+        "\\bthrow\\b", "\\btry\\b", "\\bcatch\\b", "\\bsynchronized\\b", "\\bassert\\b", "->", "::",
+        "\\bimport\\b", "\\bpackage\\b", "\\bprotected\\b", "\\bSystem\\.(?!arraycopy)", "\\bObject\\b",
+        "\\bhashCode\\b", "\\btoString\\b", "Exact\\b", "static\\s*\\{"};
+
+    private static int wrong = 0;
+
+    public static void main(String[] args) throws IOException {
+        face();
+        ownMethods();
+        staticFields();
+        text();
+        System.out.println(wrong == 0 ? "the class keeps to the rules" : wrong + " rules are broken");
+        if (wrong != 0) {
+            System.exit(1);
+        }
+    }
+
+    private static void say(String what) {
+        wrong++;
+        System.out.println(what);
+    }
+
+    private static boolean isSeen(Member member) {
+        return !Modifier.isPrivate(member.getModifiers()) && !member.isSynthetic();
+    }
+
+    private static String types(Class<?>[] parameters) {
+        StringBuilder s = new StringBuilder("(");
+        for (Class<?> type : parameters) {
+            s.append(s.length() > 1 ? "," : "").append(type.getSimpleName());
+        }
+        return s.append(")").toString();
+    }
+
+    private static void face() {
+        Class<?> c = SessionTables.class;
+        int modifiers = c.getModifiers();
+        if (!Modifier.isPublic(modifiers) || !Modifier.isFinal(modifiers)) {
+            say("the class is not public and final");
+        }
+        TreeSet<String> seen = new TreeSet<>();
+        for (Field field : c.getDeclaredFields()) {
+            if (isSeen(field)) {
+                seen.add(field.getName());
+            }
+        }
+        for (Constructor<?> made : c.getDeclaredConstructors()) {
+            if (isSeen(made)) {
+                seen.add("new" + types(made.getParameterTypes()));
+            }
+        }
+        for (Method method : c.getDeclaredMethods()) {
+            if (isSeen(method)) {
+                seen.add(method.getName() + types(method.getParameterTypes()) + ":"
+                    + method.getReturnType().getSimpleName());
+            }
+        }
+        TreeSet<String> due = new TreeSet<>(Arrays.asList(FACE));
+        if (!seen.equals(due)) {
+            say("the face is " + seen + ", due is " + due);
+        }
+    }
+
+    private static void ownMethods() {
+        TreeSet<String> open = new TreeSet<>();
+        for (Method method : SessionTables.class.getMethods()) {
+            open.add(method.getName());
+        }
+        for (Method method : SessionTables.class.getDeclaredMethods()) {
+            own(method, Modifier.isPrivate(method.getModifiers()) && open.contains(method.getName()));
+        }
+        for (Class<?> inside : SessionTables.class.getDeclaredClasses()) {
+            if (!Modifier.isStatic(inside.getModifiers())) {
+                say(inside.getName() + " is not static");
+            }
+            for (Method method : inside.getDeclaredMethods()) {
+                own(method, open.contains(method.getName()));
+            }
+        }
+    }
+
+    private static void own(Method method, boolean clash) {
+        if (clash) {
+            say(method.getName() + " bears the name of a public method");
+        }
+        if (method.getParameterCount() > 7) {
+            say(method.getName() + " has more than seven parameters");
+        }
+    }
+
+    private static void staticFields() {
+        for (Field field : SessionTables.class.getDeclaredFields()) {
+            int modifiers = field.getModifiers();
+            if (Modifier.isStatic(modifiers) && !(Modifier.isFinal(modifiers) && field.getType() == int.class)) {
+                say(field.getName() + " is static and no constant");
+            }
+        }
+    }
+
+    private static void text() throws IOException {
+        String code = Files.readString(Path.of(SOURCE)).replaceAll("(?s)/\\*.*?\\*/", " ").replaceAll("//[^\n]*", " ");
+        for (String banned : BANNED) {
+            Matcher matcher = Pattern.compile(banned).matcher(code);
+            if (matcher.find()) {
+                say("the text has " + matcher.group());
+            }
+        }
+    }
+}
