@@ -387,11 +387,14 @@ public final class PromiseTest {
         x.spoil(5);
         due(6, "tables", x.tables(), 3);
         due(6, "crash", x.crash(), 2);
+        x.write(1, 0, 7);
+        due(6, "close", x.close(), 2);
+        due(6, "1 more than the newest, not than how many", x.word(11, 3), 3);
         x.spoil(0);
         due(6, "without the root's entry", x.tables(), 0);
         x.write(1, 0, 3);
         due(6, "close", x.close(), 2);
-        due(6, "without a valid table", x.word(11, 3), 1);
+        due(6, "without a valid table", x.word(14, 3), 1);
     }
 
     private static void closeOverSpoiledEntry() {
