@@ -107,7 +107,7 @@ final class Due {
             }
         }
         s.append("\n words");
-        for (int place = 0; x.word(place, 0) > 0; place++) {
+        for (int place = 0; place < 128 && x.word(place, 0) > 0; place++) {
             for (int i = 0; i < 16; i++) {
                 s.append(' ').append(x.word(place, i));
             }

@@ -7,6 +7,7 @@ import java.lang.reflect.Modifier;
 import java.nio.file.Files;
 import java.nio.file.Path;
 import java.util.Arrays;
+import java.util.Random;
 import java.util.TreeSet;
 import java.util.regex.Matcher;
 import java.util.regex.Pattern;
@@ -32,7 +33,9 @@ public final class LanguageTest {
         face();
         ownMethods();
         staticFields();
+        sizes();
         text();
+        noCallThrows();
         System.out.println(wrong == 0 ? "the class keeps to the rules" : wrong + " rules are broken");
         if (wrong != 0) {
             System.exit(1);
@@ -118,6 +121,65 @@ public final class LanguageTest {
             if (Modifier.isStatic(modifiers) && !(Modifier.isFinal(modifiers) && field.getType() == int.class)) {
                 say(field.getName() + " is static and no constant");
             }
+        }
+    }
+
+    private static void sizes() {
+        Class<?>[] inside = SessionTables.class.getDeclaredClasses();
+        if (inside.length > 11) {
+            say("the file has more than twelve classes");
+        }
+        for (Class<?> c : inside) {
+            ownFields(c);
+        }
+        ownFields(SessionTables.class);
+    }
+
+    private static void ownFields(Class<?> c) {
+        int count = 0;
+        for (Field field : c.getDeclaredFields()) {
+            count += Modifier.isStatic(field.getModifiers()) ? 0 : 1;
+        }
+        if (count > 20) {
+            say(c.getName() + " has more than twenty fields");
+        }
+    }
+
+    /** Far beyond the 512 calls, where the answers are free, no call may throw either. */
+    private static void noCallThrows() {
+        int[] edges = {Integer.MIN_VALUE, -1, 0, 1, 2, 3, 7, 8, 9, 10, 16, 99, 100, 128, 1 << 28, Integer.MAX_VALUE};
+        for (int seed = 0; seed < 40; seed++) {
+            Random random = new Random(seed);
+            SessionTables x = new SessionTables(edges[random.nextInt(edges.length)]);
+            for (int call = 0; call < 3000; call++) {
+                int[] a = new int[4];
+                for (int i = 0; i < 4; i++) {
+                    a[i] = random.nextInt(4) == 0 ? edges[random.nextInt(edges.length)] : random.nextInt(6);
+                }
+                anyCall(x, random.nextInt(17), a);
+            }
+        }
+    }
+
+    private static void anyCall(SessionTables x, int which, int[] a) {
+        switch (which) {
+            case 0 -> x.make(a[0], a[1], a[2] > 1);
+            case 1 -> x.write(a[0], a[1], a[2]);
+            case 2 -> x.remove(a[0], a[1]);
+            case 3 -> x.move(a[0], a[1], a[2], a[3]);
+            case 4 -> x.close();
+            case 5 -> x.arm(a[0]);
+            case 6 -> x.crash();
+            case 7 -> x.spoil(a[0]);
+            case 8 -> x.left();
+            case 9 -> x.changed();
+            case 10 -> x.tables();
+            case 11 -> x.kind(a[0], a[1]);
+            case 12 -> x.items(a[0], a[1]);
+            case 13 -> x.find(a[0], a[1], a[2]);
+            case 14 -> x.item(a[0], a[1], a[2]);
+            case 15 -> x.block(a[0], a[1], a[2]);
+            default -> x.word(a[0], a[1]);
         }
     }
 

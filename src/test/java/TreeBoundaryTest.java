@@ -57,6 +57,7 @@ public final class TreeBoundaryTest {
         moveIntoItself();
         moveBelowItself();
         moveIsNoLoop();
+        moveLoopAfterMoves();
         moveFull();
         Due.end();
     }
@@ -687,6 +688,30 @@ public final class TreeBoundaryTest {
         Due.is("what is below now", x.move(0, 1, 2, 9), LOOP);
         Due.is("move back", x.move(3, 2, 0, 2), 2);
         Due.is("no longer below", x.move(0, 1, 2, 9), 1);
+    }
+
+    /** The node that moved was the last item where it left, and so is easily seen there still. */
+    private static void moveLoopAfterMoves() {
+        Due.sentence("5: LOOP if to lies below it (where it lies now, not where it lay)");
+        SessionTables x = new SessionTables(64);
+        x.make(0, 1, true);
+        x.make(0, 2, true);
+        x.make(1, 3, true);
+        Due.is("move from 1 to 2", x.move(1, 3, 2, 3), 3);
+        Due.is("move of 1 into what has left it", x.move(0, 1, 3, 1), 1);
+        Due.is("move of 2 below itself", x.move(0, 2, 1, 2), LOOP);
+        SessionTables y = new SessionTables(64);
+        y.make(0, 1, true);
+        y.make(0, 2, true);
+        Due.is("move of the root's last", y.move(0, 2, 1, 2), 2);
+        Due.is("move of 1 into what has come to it", y.move(0, 1, 2, 1), LOOP);
+        y.close();
+        Due.is("move up again", y.move(1, 2, 0, 2), 2);
+        y.crash();
+        Due.is("move of 1 below itself, read back", y.move(0, 1, 2, 1), LOOP);
+        y.remove(1, 2);
+        Due.is("make with the number that went", y.make(0, 9, true), 2);
+        Due.is("move of 1 into the new one", y.move(0, 1, 2, 1), 1);
     }
 
     private static void moveFull() {
