@@ -16,7 +16,7 @@ import java.util.regex.Pattern;
 public final class LanguageTest {
     private static final String SOURCE = "src/main/java/SessionTables.java";
     private static final String[] FACE = {
-        "BAD", "TAKEN", "MANY", "FULL", "TORN", "BUSY", "LOOP", "SPOILED", "new(int)",
+        "BAD=-1", "TAKEN=-2", "MANY=-3", "FULL=-4", "TORN=-5", "BUSY=-6", "LOOP=-7", "SPOILED=-8", "new(int)",
         "make(int,int,boolean):int", "write(int,int,int):int", "remove(int,int):int",
         "move(int,int,int,int):int", "close():int", "arm(int):boolean", "crash():int",
         "spoil(int):boolean", "left():int", "changed():int", "tables():int", "kind(int,int):int",
@@ -47,8 +47,22 @@ public final class LanguageTest {
         System.out.println(what);
     }
 
+    /** What is seen has to be public, and is told apart here if it is not. */
+    private static String open(Member member) {
+        return Modifier.isPublic(member.getModifiers()) ? "" : "not public: ";
+    }
+
     private static boolean isSeen(Member member) {
         return !Modifier.isPrivate(member.getModifiers()) && !member.isSynthetic();
+    }
+
+    private static String constant(Field field) {
+        boolean isConstant = Modifier.isStatic(field.getModifiers()) && Modifier.isFinal(field.getModifiers());
+        try {
+            return field.getName() + (isConstant ? "=" + field.getInt(null) : " is no constant");
+        } catch (ReflectiveOperationException | IllegalArgumentException e) {
+            return field.getName() + " is no int";
+        }
     }
 
     private static String types(Class<?>[] parameters) {
@@ -68,17 +82,17 @@ public final class LanguageTest {
         TreeSet<String> seen = new TreeSet<>();
         for (Field field : c.getDeclaredFields()) {
             if (isSeen(field)) {
-                seen.add(field.getName());
+                seen.add(open(field) + constant(field));
             }
         }
         for (Constructor<?> made : c.getDeclaredConstructors()) {
             if (isSeen(made)) {
-                seen.add("new" + types(made.getParameterTypes()));
+                seen.add(open(made) + "new" + types(made.getParameterTypes()));
             }
         }
         for (Method method : c.getDeclaredMethods()) {
             if (isSeen(method)) {
-                seen.add(method.getName() + types(method.getParameterTypes()) + ":"
+                seen.add(open(method) + method.getName() + types(method.getParameterTypes()) + ":"
                     + method.getReturnType().getSimpleName());
             }
         }
