@@ -130,7 +130,14 @@ public final class LanguageTest {
     }
 
     private static void staticFields() {
-        for (Field field : SessionTables.class.getDeclaredFields()) {
+        for (Class<?> inside : SessionTables.class.getDeclaredClasses()) {
+            staticFieldsOf(inside);
+        }
+        staticFieldsOf(SessionTables.class);
+    }
+
+    private static void staticFieldsOf(Class<?> c) {
+        for (Field field : c.getDeclaredFields()) {
             int modifiers = field.getModifiers();
             if (Modifier.isStatic(modifiers) && !(Modifier.isFinal(modifiers) && field.getType() == int.class)) {
                 say(field.getName() + " is static and no constant");
