@@ -10,7 +10,7 @@ import java.util.regex.Pattern;
 /** What README.md says of the class: its run of calls, and the names of all calls and answers. */
 public final class ReadmeTest {
     private static final Pattern MAKE = Pattern.compile("SessionTables x = new SessionTables\\((\\d+)\\);.*");
-    private static final Pattern CALL = Pattern.compile("x\\.(\\w+)\\(([^)]*)\\); +// ([^:]+): .*");
+    private static final Pattern CALL = Pattern.compile("x\\.(\\w+)\\(((?:\\d+|true|false|, )*)\\); +// ([^:]+): .*");
 
     private static int wrong = 0;
     private static int calls = 0;
